@@ -548,10 +548,6 @@ public final class MasksAtDawn {
             return kinds > 0 && persons > 0 && masks == persons;
         }
 
-        int worth(int i, int kind) {
-            return at(worths, i * MOST_KINDS + kind);
-        }
-
         /** The DEEDS that a PERSON does RIGHTLY in a mask of a KIND. */
         int rightDeeds(int i, int kind) {
             return at(skills, i) & at(rights, kind);
@@ -799,11 +795,11 @@ public final class MasksAtDawn {
 
         /** The least sum of FAIREST; its MASKS are in best. */
         int findFairest(Town town, Day day) {
-            int least = Integer.MAX_VALUE;
+            int least = 0;
             start(town);
             for (int way = 0; way < total; way++) {
                 int sum = sumHad(day);
-                if (sum < least) {
+                if (way == 0 || sum < least) {
                     least = sum;
                     System.arraycopy(masks, 0, best, 0, MOST_PERSONS);
                 }

@@ -14,11 +14,14 @@ public final class PromiseTest {
         faultOfWorths();
         lay();
         layStartsAnew();
+        layKeepsNothingOfOthers();
+        faultLeavesTheTown();
         person();
         had();
         mask();
         dawn();
         dawnOfMany();
+        dawnOfTheLastDay();
         change();
         deed();
         sentence();
@@ -266,6 +269,40 @@ public final class PromiseTest {
         due("wage", x.mask(1, 1), 8);
     }
 
+    private static void layKeepsNothingOfOthers() {
+        MasksAtDawn x = Checks.laid("k1,1,1;k2,2,1;p3;w19;p3;w91;d8;l0;l1;");
+        for (int again = 0; again < 3; again++) {
+            due("lay", x.lay(), 2);
+            due("work", x.chance(0), 0);
+            due("locks", x.change(0, 1), NO);
+        }
+        x.wipe();
+        Checks.write(x, "k1,1,1;k2,2,1;p3;p3;");
+        for (int again = 0; again < 3; again++) {
+            due("lay", x.lay(), 2);
+            due("no work", x.chance(0), 1);
+            due("no worths", x.rounds(0), 0);
+            due("no locks", x.change(0, 1), 1);
+            due("no worths", x.rounds(0), 1);
+        }
+    }
+
+    private static void faultLeavesTheTown() {
+        MasksAtDawn x = Checks.laid("k1,1,1;k2,2,2;p3;w19;p3;w91;p3;d1;l0;");
+        x.lay();
+        x.wipe();
+        due("fault", x.fault(), NONE);
+        due("persons", x.count(0), 3);
+        due("kinds", x.count(1), 2);
+        Checks.write(x, "k63,63,6;p0;x");
+        due("fault", x.fault(), 12);
+        due("lay", x.lay(), NO);
+        due("kinds", x.count(1), 2);
+        due("rights", x.mask(0, 2), 1);
+        due("skills", x.person(0, 0), 3);
+        due("locks", x.change(0, 1), NO);
+    }
+
     private static void person() {
         checks.part("promise 6");
         MasksAtDawn x = Checks.laid("k1,7,1;k2,5,2;p1;p2;p63;");
@@ -368,6 +405,21 @@ public final class PromiseTest {
             }
             due("mask of " + day % 6, x.person(day % 6, 1), masks.get(day % 6));
         }
+    }
+
+    /** More calls than an object is promised for: no shorter way leads to DAY 9999. */
+    private static void dawnOfTheLastDay() {
+        MasksAtDawn x = new MasksAtDawn();
+        for (int day = 1; day < 9999; day++) {
+            x.dawn(day);
+        }
+        due("the last one", x.dawn(0), 9999);
+        int earned = x.person(0, 3);
+        due("no more", x.dawn(0), NO);
+        due("BAD first", x.dawn(-1), BAD);
+        due("nothing changes", x.person(0, 3), earned);
+        due("undo", x.undo(), 7);
+        due("again", x.dawn(0), 9999);
     }
 
     private static void change() {
@@ -597,6 +649,8 @@ public final class PromiseTest {
         x = Checks.laid("k0,0,1;k0,0,1;p0;w55;p0;w91;");
         due("worth as much", x.liked(0), 0);
         due("none", x.liked(1), NONE);
+        x = Checks.laid("k0,0,1;k0,0,1;p0;w56;p0;w99;");
+        due("worth as much to the other", x.liked(0), 0);
         x = Checks.laid("k0,0,1;k0,0,1;p0;w56;p0;w91;");
         due("worth more", x.liked(0), 1);
         x.change(0, 1);
@@ -605,6 +659,10 @@ public final class PromiseTest {
         due("of one kind", x.liked(0), 0);
         x = Checks.laid("k0,0,1;k0,0,1;p0;w56;w00;p0;w91;");
         due("the last one told", x.liked(0), 0);
+        x = Checks.laid("k0,0,1;k0,0,1;k0,0,1;k0,0,2;k0,0,1;p0;w10000;p0;p0;p0;p0;p0;w00001;");
+        x.change(0, 5);
+        due("the last kind to the last person", x.liked(1), 5);
+        due("no other", x.liked(0), 1);
     }
 
     private static void allChange() {
@@ -626,6 +684,11 @@ public final class PromiseTest {
         x.change(0, 1);
         due("from now on", x.allChange(-1), 0);
         due("kind of 0", x.allChange(0), 1);
+        x = Checks.laid("k0,0,4;k0,0,1;k0,0,1;p0;w900;p0;w900;p0;w900;p0;w900;p0;w012;p0;w021;");
+        due("the last two", x.liked(1), 45);
+        due("the last two", x.allChange(-1), 1);
+        due("kind of 4", x.allChange(4), 2);
+        due("kind of 5", x.allChange(5), 1);
     }
 
     private static void rounds() {
@@ -653,6 +716,15 @@ public final class PromiseTest {
         due("second ring, 2", x.rounds(2), 1);
         due("the day stays", x.person(1, 1), 1);
         due("nothing to undo", x.count(5), 0);
+        // a ring of five round one who leaves at once, then one behind the other
+        x = Checks.laid("k0,0,1;k0,0,1;k0,0,1;k0,0,1;k0,0,2;p0;w02000;p0;w00200;p0;w00020;p0;w00002;p0;w20000;p0;w99998;");
+        for (int i = 0; i < 6; i++) {
+            due("ring of five", x.rounds(i), i == 5 ? 5 : (i + 1) % 5);
+        }
+        x = Checks.laid("k0,0,1;k0,0,1;k0,0,1;k0,0,1;k0,0,2;p0;w10000;p0;w21000;p0;w32100;p0;w43210;p0;w54321;p0;w54321;");
+        for (int i = 0; i < 6; i++) {
+            due("six rounds", x.rounds(i), i);
+        }
     }
 
     private static void roundsOfLocked() {
@@ -701,6 +773,11 @@ public final class PromiseTest {
         due("fits", x.fits(), 2);
         due("seen", x.seen(1, 0, true), 1);
         due("fits", x.fits(), 1);
+        x.forget();
+        x.seen(1, 0, false);
+        x.forget();
+        x.seen(1, 0, true);
+        due("nothing of it is left", x.fits(), 1);
     }
 
     private static void fits() {
@@ -746,6 +823,13 @@ public final class PromiseTest {
         due("BAD first", x.sure(3), BAD);
         x = Checks.laid("k1,0,3;p3;p3;p0;");
         due("of one kind", x.sure(1), 0);
+        x = new MasksAtDawn();
+        x.seen(0, 1, true);
+        due("by the last way alone", x.sure(0), 1);
+        x = Checks.laid("k0,0,1;k0,0,1;k0,0,1;k0,0,1;k32,0,2;p0;p0;p0;p0;p32;p32;");
+        x.seen(5, 5, true);
+        due("the last of six", x.sure(5), 4);
+        due("half of all", x.fits(), 240);
     }
 
     private static void fairest() {
@@ -773,6 +857,13 @@ public final class PromiseTest {
         due("1", x.fairest(1), 2);
         due("2", x.fairest(2), 1);
         due("nothing changes", x.count(5), 1);
+        x = Checks.laid("k0,0,1;k0,0,1;k0,0,1;k0,0,1;k0,0,2;p0;p0;p0;p0;p0;p0;");
+        x.dawn(0);
+        due("had by the last of six", x.had(5, 4), 1);
+        int[] want = {1, 0, 4, 5, 2, 3};
+        for (int i = 0; i < 6; i++) {
+            due("first of those without any again", x.fairest(i), want[i]);
+        }
     }
 
     private static void make() {

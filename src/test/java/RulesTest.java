@@ -31,7 +31,7 @@ public final class RulesTest {
     private static final String[] FORBIDDEN = {
         "\\bimport\\b", "\\bpackage\\b", "\\btry\\b", "\\bcatch\\b", "\\bfinally\\b", "\\bthrow\\b", "->", "::",
         "\\bsynchronized\\b", "\\bassert\\b", "\\binstanceof\\b", "Exact\\(", "\\bdouble\\b", "\\bfloat\\b",
-        "\\bstatic\\s*\\{", "\\bprotected\\b", "while \\(true\\)", "for \\(;;\\)", "\\bnull\\b", "\\bString\\b",
+        "\\bstatic\\s*\\{", "\\bprotected\\b", "while \\(true\\)", "for \\(;;\\)", "\\bnull\\b", "\\bString\\b", "_VALUE\\b",
     };
 
     public static void main(String[] args) throws Exception {
