@@ -1,13 +1,19 @@
 /** Runs of calls that the tests of refused calls begin with: nothing, something, and all that there may be. */
 final class Lives {
-    /** 4 PERSONS, 3 KINDS, of which masks of the last one may not change hands; 300 bytes. */
-    static final String FULL_TEXT = filled("k1,9,1;k6,5,2;k56,70,1;p63;w123;p21;w321;p42;w909;p7;w555;l2;");
+    /**
+     * 4 PERSONS, 3 KINDS, of which masks of the last one may not change hands; 300 bytes. Each KIND has the RIGHTS of
+     * those before it, so that both what one could do and what he could not tells something.
+     */
+    static final String FULL_TEXT = filled("k1,9,1;k3,5,2;k7,70,1;p63;w123;p23;w321;p47;w909;p7;w555;l2;");
     static final String MIDDLE_TEXT = "k1,9,2;k6,5,1;p3;w37;p5;w73;p6;w55;d3;l1;";
 
     static final Past NEW = new Past("new", x -> { });
     static final Past MIDDLE = new Past("middle", Lives::middle);
     static final Past FULL = new Past("full", Lives::full);
-    static final Past[] ALL = {NEW, MIDDLE, FULL};
+    /** What is SEEN alone tells something here, whatever else was. */
+    static final Past COULD = new Past("could", x -> x.seen(1, 1, true));
+    static final Past COULD_NOT = new Past("could not", x -> x.seen(0, 1, false));
+    static final Past[] ALL = {NEW, MIDDLE, FULL, COULD, COULD_NOT};
 
     private Lives() {
     }
@@ -50,6 +56,10 @@ final class Lives {
         x.sentence(judge(x), 3);
         x.dawn(14);
         x.deed(3, 4);
+        lookTenTimes(x);
+    }
+
+    static void lookTenTimes(MasksAtDawn x) {
         for (int n = 0; n < 10; n++) {
             look(x, n % 4, n % 3);
         }

@@ -75,7 +75,7 @@ final class Past {
 
     private static void all(MasksAtDawn x, List<String> lines) {
         int persons = x.count(0), kinds = x.count(1);
-        lines.add("persons " + persons + ", kinds " + kinds + ", bytes " + x.count(7) + ", fault " + x.fault());
+        lines.add("persons " + persons + ", kinds " + kinds + ", bytes " + x.count(7));
         day(x, lines);
         for (int i = 0; i < persons; i++) {
             lines.add("mask " + i + ": " + x.mask(i, 1) + " " + x.mask(i, 2));
@@ -88,6 +88,7 @@ final class Past {
         lines.add("chance " + x.chance(0) + " " + x.chance(1) + ", anew " + x.anew(0) + " " + x.anew(1));
         lines.add("liked " + x.liked(0) + " " + x.liked(1) + ", all change " + x.allChange(-1));
         lines.add("fits " + x.fits() + ", fairest " + x.fairest(-1) + ", false " + x.falseOne());
+        lines.add("fault " + x.fault());
     }
 
     private static void day(MasksAtDawn x, List<String> lines) {

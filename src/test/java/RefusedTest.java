@@ -170,6 +170,11 @@ public final class RefusedTest {
             Checks.write(x, "k9,9,1;p9;w9;d9;");
             x.wipe();
         }).isLike(checks, wiped);
+        new Past("wiped and written again", x -> {
+            Lives.full(x);
+            x.wipe();
+            Checks.write(x, Lives.FULL_TEXT);
+        }).isLike(checks, Lives.FULL);
         checks.due("room for all again", wiped.object().write(8, 0), 8);
     }
 
@@ -178,7 +183,8 @@ public final class RefusedTest {
         Lives.NEW.stays(checks, "fault", x -> x.fault(), NONE);
         Lives.MIDDLE.stays(checks, "fault", x -> x.fault(), 23);
         Lives.FULL.stays(checks, "fault", x -> x.fault(), NONE);
-        for (String text : new String[] {"x", "k63,99,6;p63;w9;d63;l0;", "p1;k1,1,1;"}) {
+        for (String text : new String[] {"x", "k63,99,6;p63;w9;d63;l0;", "p1;k1,1,1;", "k9,9,1;p9;",
+            "k9,9,3;k8,8,1;p9;p8;p7;p6;w67;d9;l0;", "k9,9,6;p9;p8;p7;p6;p5;p4;"}) {
             Past past = withText(text);
             past.stays(checks, "fault", x -> x.fault(), past.object().fault());
         }
@@ -201,7 +207,9 @@ public final class RefusedTest {
         for (String text : texts) {
             withText(text).stays(checks, "lay", x -> x.lay(), NO);
         }
-        Lives.NEW.stays(checks, "lay", x -> x.lay(), NO);
+        for (Past past : new Past[] {Lives.NEW, Lives.COULD, Lives.COULD_NOT}) {
+            past.stays(checks, "lay", x -> x.lay(), NO);
+        }
         Lives.MIDDLE.stays(checks, "lay", x -> x.lay(), NO);
     }
 
@@ -301,7 +309,8 @@ public final class RefusedTest {
     private static void promise9DawnOnTheLastDay() {
         checks.part("promise 9: NO: it is DAY 9999");
         Past past = new Past("day 9999", x -> {
-            for (int day = 1; day <= 9999; day++) {
+            Lives.full(x);
+            for (int day = x.count(2) + 1; day <= 9999; day++) {
                 x.dawn(day % 100);
             }
         });
@@ -411,7 +420,9 @@ public final class RefusedTest {
 
     private static void promise14Undo() {
         checks.part("promise 14: NO");
-        Lives.NEW.stays(checks, "undo", x -> x.undo(), NO);
+        for (Past past : new Past[] {Lives.NEW, Lives.COULD, Lives.COULD_NOT}) {
+            past.stays(checks, "undo", x -> x.undo(), NO);
+        }
         new Past("all undone", x -> {
             Lives.full(x);
             for (int n = 0; n < 8; n++) {
@@ -516,6 +527,11 @@ public final class RefusedTest {
             x.seen(2, 0, false);
             x.forget();
         }).isLike(checks, forgot);
+        new Past("forgot and saw again", x -> {
+            Lives.full(x);
+            x.forget();
+            Lives.lookTenTimes(x);
+        }).isLike(checks, Lives.FULL);
     }
 
     private static void promise22Fits() {
@@ -579,6 +595,10 @@ public final class RefusedTest {
         Lives.FULL.stays(checks, "keep", x -> x.keep(), FULL);
         checks.due("the first", Lives.NEW.object().keep(), 1);
         checks.due("the second", Lives.MIDDLE.object().keep(), 2);
+        new Past("kept and back", x -> {
+            x.keep();
+            x.back();
+        }).isLike(checks, Lives.NEW);
         MasksAtDawn x = Lives.FULL.object();
         x.back();
         checks.due("room again", x.keep(), 2);
@@ -587,7 +607,9 @@ public final class RefusedTest {
 
     private static void promise29Back() {
         checks.part("promise 29: NO");
-        Lives.NEW.stays(checks, "back", x -> x.back(), NO);
+        for (Past past : new Past[] {Lives.NEW, Lives.COULD, Lives.COULD_NOT}) {
+            past.stays(checks, "back", x -> x.back(), NO);
+        }
         new Past("none kept any more", x -> {
             Lives.full(x);
             x.back();
@@ -632,5 +654,11 @@ public final class RefusedTest {
         Lives.NEW.stays(checks, "nothing to ask, and none", x -> x.anew(2), BAD);
         Lives.NEW.stays(checks, "nothing to ask, and none", x -> x.liked(2), BAD);
         Lives.NEW.stays(checks, "nobody, and none", x -> x.sure(2), BAD);
+        Past noWay = new Past("no way", x -> {
+            x.seen(0, 0, true);
+            x.seen(0, 0, false);
+        });
+        noWay.stays(checks, "nobody, and no such way", x -> x.sure(2), BAD);
+        noWay.stays(checks, "nobody, and no such way", x -> x.sure(-1), BAD);
     }
 }

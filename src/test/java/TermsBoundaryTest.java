@@ -56,6 +56,7 @@ public final class TermsBoundaryTest {
         yearFromNowOn();
         kept2AtMost();
         keptIsAllOfTheDay();
+        keptIsNothingElse();
         backAsKeptLast();
         backNothingIsUndone();
         checks.end();
@@ -793,6 +794,22 @@ public final class TermsBoundaryTest {
                 x.back();
             }));
         }
+    }
+
+    private static void keptIsNothingElse() {
+        checks.part("KEPT is all of the DAY: neither SEEN nor THE TEXT");
+        MasksAtDawn x = Lives.MIDDLE.object();
+        x.keep();
+        x.seen(2, 1, true);
+        x.write(3, 0x64303bL);
+        due("back", x.back(), 1);
+        due("seen", x.count(4), 3);
+        due("bytes", x.count(7), 27);
+        x.forget();
+        x.wipe();
+        due("back", x.back(), 0);
+        due("seen", x.count(4), 0);
+        due("bytes", x.count(7), 0);
     }
 
     private static void backAsKeptLast() {
