@@ -3,6 +3,7 @@ import java.io.IOException;
 import java.nio.file.Files;
 import java.nio.file.Path;
 import java.util.ArrayList;
+import java.util.Comparator;
 import java.util.LinkedHashSet;
 import java.util.List;
 import java.util.Set;
@@ -60,7 +61,14 @@ public final class Mutants {
             }
         }
         workers.shutdown();
+        remove(room);
         System.out.println(built + " mutants, " + survivors + " survivors");
+    }
+
+    private static void remove(Path room) throws IOException {
+        try (Stream<Path> files = Files.walk(room)) {
+            files.sorted(Comparator.reverseOrder()).forEach(file -> file.toFile().delete());
+        }
     }
 
     private static Set<String> changesOf(String line) {

@@ -14,6 +14,7 @@ import java.util.Map;
 import java.util.Random;
 import java.util.Set;
 import java.util.TreeSet;
+import java.util.regex.Matcher;
 import java.util.regex.Pattern;
 
 /** What LANGUAGE.md asks and a test can see: the face, the words of the file, the room, no throw by itself. */
@@ -38,6 +39,7 @@ public final class RulesTest {
         face();
         nestedClasses();
         words();
+        libraryNames();
         methodsStayShort();
         roomOfOneObject();
         callsMakeNothing();
@@ -86,8 +88,17 @@ public final class RulesTest {
         checks.due("constants", constants, new TreeSet<>(Set.of("BAD", "NO", "FULL", "NONE")));
         checks.due("constructors", c.getDeclaredConstructors().length, 1);
         checks.due("constructor", Modifier.isPublic(c.getDeclaredConstructors()[0].getModifiers()), true);
+        checks.due("the outer class has few fields", privateFieldsBesideConstants(c) <= 20, true);
         checks.due("class", c.getModifiers(), Modifier.PUBLIC | Modifier.FINAL);
         checks.due("interfaces", c.getInterfaces().length, 0);
+    }
+
+    private static int privateFieldsBesideConstants(Class<?> c) {
+        int many = 0;
+        for (Field field : c.getDeclaredFields()) {
+            many += Modifier.isStatic(field.getModifiers()) ? 0 : 1;
+        }
+        return many;
     }
 
     private static void nestedClasses() {
@@ -102,6 +113,10 @@ public final class RulesTest {
             int m = c.getModifiers();
             checks.due(c + " static and not public", Modifier.isStatic(m) && !Modifier.isPublic(m), true);
             checks.due(c + " has few fields", c.getDeclaredFields().length <= 20, true);
+            for (Field field : c.getDeclaredFields()) {
+                int f = field.getModifiers();
+                checks.due(field + " static but not final", Modifier.isStatic(f) && !Modifier.isFinal(f), false);
+            }
             for (Method method : c.getDeclaredMethods()) {
                 checks.due(method + " has a name of the face", names.contains(method.getName()), false);
                 checks.due(method + " takes few", method.getParameterCount() <= 7, true);
@@ -113,9 +128,31 @@ public final class RulesTest {
         return Files.readString(Path.of("src/main/java/MasksAtDawn.java"));
     }
 
+    private static String code() throws IOException {
+        return source().replaceAll("(?s)/\\*.*?\\*/", "").replaceAll("//[^\n]*", "");
+    }
+
+    private static void libraryNames() throws IOException {
+        checks.part("rule 4");
+        Set<String> found = new TreeSet<>();
+        Matcher name = Pattern.compile("\\b[A-Z][a-z]\\w*\\s*\\.\\s*\\w+").matcher(code());
+        while (name.find()) {
+            found.add(name.group());
+        }
+        found.removeAll(Set.of("Math.max", "Math.min", "Integer.bitCount", "System.arraycopy"));
+        checks.due("names of the library", found, new TreeSet<>());
+        Set<String> made = new TreeSet<>();
+        Matcher creation = Pattern.compile("\\bnew (\\w+)").matcher(code());
+        while (creation.find()) {
+            made.add(creation.group(1));
+        }
+        made.removeAll(Set.of("int", "Text", "Town", "Day", "Shelf", "Sightings", "Ways", "Alley"));
+        checks.due("made of other classes", made, new TreeSet<>());
+    }
+
     private static void words() throws IOException {
         checks.part("rules 3 to 10");
-        String code = source().replaceAll("(?s)/\\*.*?\\*/", "").replaceAll("//[^\n]*", "");
+        String code = code();
         for (String forbidden : FORBIDDEN) {
             checks.due("found " + forbidden, Pattern.compile(forbidden).matcher(code).find(), false);
         }

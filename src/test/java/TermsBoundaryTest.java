@@ -575,6 +575,11 @@ public final class TermsBoundaryTest {
                 due("the lowest first", Checks.laid(kinds + down.repeat(persons)).rounds(i), i);
             }
         }
+        // the last one alone, in a mask that is not his number
+        x = two("10", "10", "");
+        x.change(0, 1);
+        due("1 leaves with what both would have", x.rounds(1), 0);
+        due("0 is left with what he wears", x.rounds(0), 1);
         // each would have the next one's
         x = Checks.laid("k0,0,1;k0,0,1;k0,0,1;k0,0,1;k0,0,2;p0;w09000;p0;w00900;p0;w00090;p0;w00009;p0;w90000;p0;w90005;");
         int[] ring = {1, 2, 3, 4, 0, 5};
