@@ -239,7 +239,7 @@ public final class RefusedTest {
     private static void promise5LayKeepsNoTown() {
         checks.part("promise 5: LAID");
         String large = "k63,99,1;k63,98,1;k63,97,1;k63,96,1;k63,95,2;" + "p63;w90000;".repeat(5) + "p63;w99999;d63;l0;l1;l4;";
-        String turned = "k62,99,2;k61,98,1;k59,97,1;k55,96,1;k47,95,1;" + "p63;w01234;".repeat(6) + "d62;l3;l2;";
+        String turned = "k63,89,2;k63,88,1;k63,87,1;k63,86,1;k63,85,1;" + "p63;w01234;".repeat(6) + "d62;l3;l2;";
         for (int persons = 1; persons <= 5; persons++) {
             for (int kinds = 1; kinds <= persons; kinds++) {
                 StringBuilder text = new StringBuilder();
@@ -247,8 +247,9 @@ public final class RefusedTest {
                     text.append("k").append(1 << kind).append(",").append(10 * kind).append(",");
                     text.append(kind == 0 ? persons - kinds + 1 : 1).append(";");
                 }
-                text.append("p7;".repeat(persons));
-                text.append("w").append("9".repeat(kinds - 1)).append("0;d1;");
+                // a deed that no KIND of this town has, but all of the larger ones had
+                text.append("p63;".repeat(persons));
+                text.append("w").append("9".repeat(kinds - 1)).append("0;d").append(1 << kinds).append(";");
                 Past first = new Past("first " + text, x -> {
                     Checks.write(x, text.toString());
                     x.lay();
