@@ -343,7 +343,7 @@ public final class MasksAtDawn {
         int greatest = ways.doingAllWork(town, today);
         int best = NONE;
         supposed.copyFrom(today);
-        for (int m = 0; m < town.persons; m++) {
+        for (int m = 0; m < town.persons && greatest < ways.total; m++) {
             for (int kind = 0; kind < town.kinds; kind++) {
                 supposed.kindOf[m] = kind;
                 int able = ways.doingAllWork(town, supposed);
@@ -706,15 +706,20 @@ public final class MasksAtDawn {
     private static final class Ways {
         final int[] masks = new int[MOST_PERSONS];
         final int[] best = new int[MOST_PERSONS];
+        /** What each PERSON does RIGHTLY in each MASK, worked out once as every WAY asks for it. */
+        final int[] rightDeeds = new int[MOST_PERSONS * MOST_PERSONS];
         int persons;
         int total;
 
-        void start(Town town) {
+        void start(Town town, Day day) {
             persons = Math.min(town.persons, MOST_PERSONS);
             total = 1;
             for (int i = 0; i < persons; i++) {
                 masks[i] = i;
                 total *= i + 1;
+                for (int m = 0; m < persons; m++) {
+                    rightDeeds[i * MOST_PERSONS + m] = town.rightDeeds(i, day.kindOf[m]);
+                }
             }
         }
 
@@ -738,9 +743,9 @@ public final class MasksAtDawn {
 
         int doingAllWork(Town town, Day day) {
             int many = 0;
-            start(town);
+            start(town, day);
             for (int way = 0; way < total; way++) {
-                if ((town.work & ~allRightDeeds(town, day)) == 0) {
+                if ((town.work & ~allRightDeeds()) == 0) {
                     many++;
                 }
                 step();
@@ -748,19 +753,19 @@ public final class MasksAtDawn {
             return many;
         }
 
-        int allRightDeeds(Town town, Day day) {
+        int allRightDeeds() {
             int deeds = 0;
             for (int i = 0; i < persons; i++) {
-                deeds |= town.rightDeeds(i, kindWornBy(i, day));
+                deeds |= at(rightDeeds, i * MOST_PERSONS + masks[i]);
             }
             return deeds;
         }
 
         int fitting(Town town, Day day, Sightings sightings) {
             int many = 0;
-            start(town);
+            start(town, day);
             for (int way = 0; way < total; way++) {
-                if (isAsSeen(town, day, sightings)) {
+                if (isAsSeen(sightings)) {
                     many++;
                 }
                 step();
@@ -770,9 +775,9 @@ public final class MasksAtDawn {
 
         int sureKind(Town town, Day day, Sightings sightings, int i) {
             int kind = NONE;
-            start(town);
+            start(town, day);
             for (int way = 0; way < total; way++) {
-                if (isAsSeen(town, day, sightings)) {
+                if (isAsSeen(sightings)) {
                     int here = kindWornBy(i, day);
                     if (kind != NONE && kind != here) {
                         return NONE;
@@ -784,9 +789,9 @@ public final class MasksAtDawn {
             return kind;
         }
 
-        boolean isAsSeen(Town town, Day day, Sightings sightings) {
+        boolean isAsSeen(Sightings sightings) {
             for (int i = 0; i < persons; i++) {
-                if (!sightings.allow(i, town.rightDeeds(i, kindWornBy(i, day)))) {
+                if (!sightings.allow(i, at(rightDeeds, i * MOST_PERSONS + masks[i]))) {
                     return false;
                 }
             }
@@ -796,7 +801,7 @@ public final class MasksAtDawn {
         /** The least sum of FAIREST; its MASKS are in best. */
         int findFairest(Town town, Day day) {
             int least = 0;
-            start(town);
+            start(town, day);
             for (int way = 0; way < total; way++) {
                 int sum = sumHad(day);
                 if (way == 0 || sum < least) {

@@ -1,10 +1,13 @@
 import java.nio.charset.StandardCharsets;
+import java.util.HashMap;
+import java.util.Map;
 
 /** What the tests share: answers that are due, and texts that are written by the eight bytes. */
 final class Checks {
     private int made = 0;
     private int wrong = 0;
     private String part = "";
+    private final Map<String, Integer> madeByPart = new HashMap<>();
 
     void part(String name) {
         part = name;
@@ -12,10 +15,16 @@ final class Checks {
 
     void due(String call, Object got, Object want) {
         made++;
+        madeByPart.merge(part, 1, Integer::sum);
         if (!want.equals(got)) {
             wrong++;
             System.out.println(part + ": " + call + " answered " + got + ", due is " + want);
         }
+    }
+
+    /** How many answers of a part were looked at. */
+    int lookedAt(String name) {
+        return madeByPart.getOrDefault(name, 0);
     }
 
     void end() {

@@ -45,7 +45,15 @@ public final class PromiseTest {
         keep();
         back();
         count();
+        everyPromiseHasTests();
         checks.end();
+    }
+
+    private static void everyPromiseHasTests() {
+        checks.part("all promises");
+        for (int promise = 1; promise <= 30; promise++) {
+            checks.due("answers of promise " + promise, checks.lookedAt("promise " + promise) > 0, true);
+        }
     }
 
     private static void due(String call, int got, int want) {

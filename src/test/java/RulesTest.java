@@ -8,8 +8,11 @@ import java.lang.reflect.Modifier;
 import java.nio.file.Files;
 import java.nio.file.Path;
 import java.util.ArrayDeque;
+import java.util.ArrayList;
 import java.util.Deque;
+import java.util.HashMap;
 import java.util.IdentityHashMap;
+import java.util.List;
 import java.util.Map;
 import java.util.Random;
 import java.util.Set;
@@ -41,6 +44,7 @@ public final class RulesTest {
         words();
         libraryNames();
         methodsStayShort();
+        callsGoAtMostEightDeep();
         roomOfOneObject();
         callsMakeNothing();
         nothingThrows();
@@ -159,21 +163,70 @@ public final class RulesTest {
         checks.due("signs", source().chars().allMatch(sign -> sign == '\n' || sign >= 32 && sign < 127), true);
     }
 
-    private static void methodsStayShort() throws IOException {
-        checks.part("rule 11");
-        int from = 0;
-        String[] lines = source().split("\n");
-        for (int line = 0; line < lines.length; line++) {
-            if (lines[line].matches("(    |        )[a-zA-Z].*\\) \\{")) {
-                from = line;
-            } else if (lines[line].matches("(    |        )\\}")) {
-                checks.due("lines of " + lines[from].trim() + " few", line - from <= 60, true);
-                from = line;
-            }
-        }
+    private record Body(String name, List<String> lines) {
     }
 
-    private static void roomOfOneObject() throws IllegalAccessException {
+    /** A method begins by a head that is no statement and ends by the } that stands as far to the right. */
+    private static List<Body> bodies() throws IOException {
+        List<Body> bodies = new ArrayList<>();
+        Pattern head = Pattern.compile("( +)(?!if|for|while|switch|else|do)\\w[^=(]*?(\\w+)\\([^()]*\\) \\{");
+        Body open = null;
+        String end = null;
+        for (String line : source().replaceAll("//[^\n]*", "").split("\n")) {
+            Matcher found = head.matcher(line);
+            if (open == null && found.matches()) {
+                open = new Body(found.group(2), new ArrayList<>());
+                end = found.group(1) + "}";
+            } else if (open != null && line.equals(end)) {
+                bodies.add(open);
+                open = null;
+            } else if (open != null) {
+                open.lines.add(line);
+            }
+        }
+        return bodies;
+    }
+
+    private static void methodsStayShort() throws IOException {
+        checks.part("rule 11");
+        for (Body body : bodies()) {
+            checks.due("lines of " + body.name + " few", body.lines.size() <= 60, true);
+        }
+        int methods = MasksAtDawn.class.getDeclaredMethods().length + MasksAtDawn.class.getDeclaredConstructors().length;
+        for (Class<?> c : MasksAtDawn.class.getDeclaredClasses()) {
+            methods += c.getDeclaredMethods().length;
+        }
+        // the constructor of Shelf is the only one inside that is written
+        checks.due("methods found", bodies().size(), methods + 1);
+    }
+
+    /** By names, those of several classes taken together: that can only make it deeper. */
+    private static void callsGoAtMostEightDeep() throws IOException {
+        checks.part("rules 8, 11");
+        Map<String, String> bodies = new HashMap<>();
+        for (Body body : bodies()) {
+            bodies.merge(body.name, String.join("\n", body.lines), String::concat);
+        }
+        for (String name : bodies.keySet()) {
+            int deep = depth(name, bodies, 0);
+            checks.due(name + " goes " + deep + " deep", deep <= 8, true);
+        }
+        checks.due("rounds asks at", depth("rounds", bodies, 0) >= 6, true);
+    }
+
+    /** A method that comes back to itself is beyond every depth. */
+    private static int depth(String name, Map<String, String> bodies, int above) {
+        int below = 0;
+        Matcher called = Pattern.compile("(\\w+)\\(").matcher(bodies.get(name));
+        while (above < 20 && called.find()) {
+            if (bodies.containsKey(called.group(1))) {
+                below = Math.max(below, depth(called.group(1), bodies, above + 1));
+            }
+        }
+        return 1 + below;
+    }
+
+    private static void roomOfOneObject() throws IllegalAccessException, IOException {
         checks.part("the room");
         Map<Object, Boolean> known = new IdentityHashMap<>();
         Deque<Object> open = new ArrayDeque<>();
@@ -200,7 +253,9 @@ public final class RulesTest {
                 }
             }
         }
-        System.out.println("one object: " + known.size() + " objects, " + elements + " fields and elements");
+        String room = known.size() + " objects, " + elements + " fields and elements";
+        System.out.println("one object: " + room);
+        checks.due("README.md says " + room, Files.readString(Path.of("README.md")).contains(room), true);
         checks.due("objects few", known.size() <= 200, true);
         checks.due("elements few", elements <= 2000, true);
     }
